@@ -114,40 +114,59 @@ final class ProgramMaker {
         }
     }
 
+    /** Register 2 points to where register 1 is kept, 3 to memory; the same shape, the same signs. */
     private void orderlyFunction(int f, int functions, int[][][] phrase, Random shape) {
         boolean leaf = f == functions - 1;
-        pair.put(f, 19, 3, 16, 0);
-        int keep = 4 * shape.nextInt(3) + 12 * Math.min(f, 9);
-        if (!leaf) {
-            pair.put(f, 21, 1, 3, keep);
+        if (f == 0) {
+            pair.put(f, 19, 3, 16, 0);
+            pair.put(f, 10, 2, 3, -4);
         }
+        pair.put(f, 10, 2, 2, 4);
+        pair.put(f, 21, 1, 2, 0);
         int parts = 1 + shape.nextInt(5);
         for (int i = 0; i < parts; i++) {
             for (int[] s : phrase[shape.nextInt(phrase.length)]) {
                 pair.put(f, s[0], s[1], s[2], s[3]);
             }
-            int place = pair.x.about(f, 0);
-            int kind = shape.nextInt(6);
-            if (kind == 0 && !leaf) {
-                pair.put(f, 29, f + 1 + below(functions - f - 1), 0, 0);
-            } else if (kind == 1 && !leaf) {
-                pair.put(f, 32, 12, f + 1 + shape.nextInt(functions - f - 1), 0);
-                pair.put(f, 33, 12, 0, 0);
-            } else if (kind == 2) {
-                pair.put(f, 22 + shape.nextInt(6), 6 + shape.nextInt(6), 6 + shape.nextInt(6), place + 2);
-                pair.put(f, 10, 6, 6, 1);
-            } else if (kind == 3 && place > 3) {
-                pair.put(f, 22 + shape.nextInt(6), 6 + shape.nextInt(6), 6 + shape.nextInt(6),
-                    2 + shape.nextInt(place - 2));
-            }
+            orderlyPart(f, functions, shape);
         }
-        if (!leaf) {
-            pair.put(f, 20, 1, 3, keep);
-        }
-        if (!leaf && shape.nextInt(4) == 0) {
+        pair.put(f, 20, 1, 2, 0);
+        pair.put(f, 10, 2, 2, -4);
+        if (shape.nextInt(4) == 0 && !leaf) {
             pair.put(f, 30, f + 1 + below(functions - f - 1), 0, 0);
         } else {
             pair.put(f, 31, 0, 0, 0);
+        }
+    }
+
+    private void orderlyPart(int f, int functions, Random shape) {
+        int place = pair.x.about(f, 0);
+        int x = 6 + shape.nextInt(6);
+        int y = 6 + shape.nextInt(6);
+        int branch = 22 + shape.nextInt(6);
+        switch (shape.nextInt(6)) {
+            case 0:
+            case 1:
+                if (f < functions - 1) {
+                    pair.put(f, 29, f + 1 + below(functions - f - 1), 0, 0);
+                }
+                break;
+            case 2:
+                if (f < functions - 1 && branch < 25) {
+                    pair.put(f, 32, 12, functions - 1, 0);
+                    pair.put(f, 33, 12, 0, 0);
+                }
+                break;
+            case 3:
+                pair.put(f, branch, x, y, Math.min(place + 2, 39));
+                pair.put(f, 10, 6, 6, 1);
+                break;
+            case 4:
+                if (place > 4) {
+                    pair.put(f, branch, x, y, 4 + shape.nextInt(place - 4));
+                }
+                break;
+            default:
         }
     }
 
