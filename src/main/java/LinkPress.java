@@ -583,6 +583,14 @@ public final class LinkPress {
                 && as[spot] == as[other] && bs[spot] == bs[other] && cs[spot] == cs[other];
         }
 
+        /** Below 256; the same for the same instructions, and seldom the same for others. */
+        int mixAt(int spot) {
+            if (!hasSpot(spot)) {
+                return 0;
+            }
+            return numbers[spot] * 7 + as[spot] * 13 + bs[spot] * 31 + cs[spot] * 67 & 255;
+        }
+
         boolean namesReturnRegister(int spot) {
             int number = numberAt(spot);
             return Signs.isReturnRegister(Signs.kindOfA(number), aAt(spot))
@@ -1057,6 +1065,7 @@ public final class LinkPress {
         private final int[] firsts = new int[SPOTS];
         private final int[] ends = new int[SPOTS];
         private int size;
+        private int longestTwice;
         private int bestSaves;
         private int bestLength;
         private int bestSpot;
@@ -1116,61 +1125,71 @@ public final class LinkPress {
             }
         }
 
+        /** Where no row comes twice, no longer one does. */
         private void nameRows() {
-            for (int spot = 0; spot < size; spot++) {
-                names[1][spot] = open[spot] ? firstSame(spot) : NONE;
-            }
-            for (int length = SHORTEST; length <= LONGEST; length++) {
-                nameRowsOf(length);
-            }
-        }
-
-        private int firstSame(int spot) {
-            for (int other = 0; other < spot; other++) {
-                if (names[1][other] == other && program.isSame(other, spot)) {
-                    return other;
+            longestTwice = 0;
+            boolean twice = true;
+            for (int length = 1; twice && length <= LONGEST; length++) {
+                twice = nameRowsOf(length);
+                if (twice) {
+                    longestTwice = length;
                 }
             }
-            return spot;
         }
 
-        /** Rows of one length are the same if they are without their last, and in their last. */
-        private void nameRowsOf(int length) {
+        /** Rows of which the shorter ones are the same are in one chain. True if a row comes twice. */
+        private boolean nameRowsOf(int length) {
+            boolean twice = false;
             Arrays.fill(heads, NONE);
             for (int spot = 0; spot < size; spot++) {
-                names[length][spot] = NONE;
-                int shorter = names[length - 1][spot];
-                if (reach[spot] >= length && shorter >= 0 && shorter < SPOTS) {
-                    names[length][spot] = nameOf(spot, length, shorter);
+                int name = NONE;
+                if (reach[spot] >= length) {
+                    int chain = length == 1 ? program.mixAt(spot) : names[length - 1][spot];
+                    name = nameInChain(chain, spot, length);
                 }
+                names[length][spot] = name;
+                twice |= name != NONE && name != spot;
             }
+            return twice;
         }
 
-        private int nameOf(int spot, int length, int shorter) {
-            int last = spot + length - 1;
-            int other = heads[shorter];
+        private int nameInChain(int chain, int spot, int length) {
+            if (chain < 0 || chain >= SPOTS) {
+                return NONE;
+            }
+            int other = heads[chain];
             for (int i = 0; i < SPOTS && other >= 0 && other < SPOTS; i++) {
-                int otherLast = other + length - 1;
-                if (otherLast < size && last < size && names[1][otherLast] == names[1][last]) {
+                if (haveSameLast(other, spot, length)) {
                     return other;
                 }
                 other = nexts[other];
             }
-            nexts[spot] = heads[shorter];
-            heads[shorter] = spot;
+            nexts[spot] = heads[chain];
+            heads[chain] = spot;
             return spot;
         }
 
-        /** Longer rows and earlier ones are looked at first, so only one that saves more wins. */
+        private boolean haveSameLast(int spot, int other, int length) {
+            if (length == 1) {
+                return program.isSame(spot, other);
+            }
+            int last = spot + length - 1;
+            int otherLast = other + length - 1;
+            return last < size && otherLast < size && names[1][last] == names[1][otherLast];
+        }
+
+        /**
+         * Longer rows and earlier ones are looked at first, so only one that saves more wins. Rows
+         * that do not come twice any more never will again: each routine leaves fewer that are fit.
+         */
         private void chooseBest() {
             bestSaves = 0;
-            int longest = 0;
-            for (int spot = 0; spot < size; spot++) {
-                longest = Math.max(longest, reach[spot]);
-            }
-            for (int length = Math.min(longest, LONGEST); length >= SHORTEST; length--) {
-                countRowsOf(length);
-                weighRowsOf(length);
+            for (int length = longestTwice; length >= SHORTEST; length--) {
+                if (countRowsOf(length)) {
+                    weighRowsOf(length);
+                } else {
+                    longestTwice = length - 1;
+                }
             }
         }
 
@@ -1178,20 +1197,25 @@ public final class LinkPress {
             return reach[spot] >= length ? names[length][spot] : NONE;
         }
 
-        private void countRowsOf(int length) {
+        /** True if a row occurs twice, one behind the end of the other. */
+        private boolean countRowsOf(int length) {
+            boolean twice = false;
             Arrays.fill(times, 0);
             for (int spot = 0; spot < size; spot++) {
                 int name = fitNameAt(spot, length);
                 if (name >= 0 && name < SPOTS) {
                     if (times[name] == 0) {
                         firsts[name] = spot;
-                    }
-                    if (times[name] == 0 || spot >= ends[name]) {
+                        times[name] = 1;
+                        ends[name] = spot + length;
+                    } else if (spot >= ends[name]) {
+                        twice = true;
                         times[name]++;
                         ends[name] = spot + length;
                     }
                 }
             }
+            return twice;
         }
 
         private void weighRowsOf(int length) {

@@ -344,6 +344,13 @@ public final class PromisesTest {
             due("body(" + f + ", 1)", x.body(f, 1), f == 0 ? 4096 : 4116 + 4 * f);
         }
         due("count(4)", x.count(4), 5);
+        // 0, 1, 2 are the same; 0 and 2 are TAKEN: the least of those
+        LinkPress z = program(4, new int[][] {
+            {0, RET, 0, 0, 0}, {1, RET, 0, 0, 0}, {2, RET, 0, 0, 0}, {3, 32, 6, 2, 0}, {3, 32, 6, 0, 0},
+            {3, RET, 0, 0, 0}});
+        due("press", z.press(true, false), 7);
+        due("body(1, 0)", z.body(1, 0), 0);
+        due("body(2, 0)", z.body(2, 0), 2);
         // FUNCTION 0 is not its own BODY: the run begins at the BODY
         LinkPress y = program(2, new int[][] {
             {0, 32, 6, 1, 0}, {0, RET, 0, 0, 0}, {1, 32, 6, 1, 0}, {1, RET, 0, 0, 0}});
@@ -542,6 +549,11 @@ public final class PromisesTest {
     private static void promise11Told() {
         told("an empty one", withFunctions(1), 9, 2, 0, 0, 0);
         told("a call of none", program(1, new int[][] {{0, 29, 7, 0, 0}}), 9, 2, 1, 7, 0);
+        LinkPress cleared = program(2, new int[][] {{0, 34, 0, 0, 0}, {0, 34, 0, 0, 0}, {1, 34, 0, 0, 0}});
+        cleared.clear();
+        cleared.function();
+        cleared.put(0, 29, 1, 0, 0);
+        told("a call of one that was cleared", cleared, 9, 2, 1, 1, 0);
         told("a tail of none", program(1, new int[][] {{0, 30, 23, 0, 0}}), 9, 2, 1, 23, 0);
         told("a jump to none", program(1, new int[][] {{0, 28, 39, 0, 0}}), 9, 2, 1, 0, 39);
         told("a branch to none", program(1, new int[][] {{0, 22, 0, 0, 9}}), 9, 2, 1, 0, 9);
