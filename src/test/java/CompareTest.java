@@ -6,20 +6,21 @@ public final class CompareTest {
 
     public static void main(String[] args) {
         Checks checks = new Checks("CompareTest");
-        int rounds = args.length > 0 ? Integer.parseInt(args[0]) : 400;
+        int rounds = args.length > 0 ? Integer.parseInt(args[0]) : 800;
         for (int seed = 0; seed < rounds; seed++) {
             Random random = new Random(seed);
             Pair pair = new Pair(checks, "seed " + seed);
             ProgramMaker maker = new ProgramMaker(random, pair);
-            for (int program = 0; program < 3; program++) {
-                make(maker, random.nextInt(5));
+            make(maker, random.nextInt(5));
+            use(pair, random);
+            pair.clear();
+            pair.compareImage();
+            // nothing of it is left for the next one; a third comes behind that
+            maker.small();
+            use(pair, random);
+            if (seed % 3 == 0) {
+                maker.small();
                 use(pair, random);
-                if (random.nextInt(3) == 0) {
-                    maker.small();
-                    use(pair, random);
-                }
-                pair.clear();
-                pair.compareImage();
             }
         }
         checks.end();

@@ -140,7 +140,7 @@ final class ProgramMaker {
     }
 
     private void orderlyPart(int f, int functions, Random shape) {
-        int place = pair.x.about(f, 0);
+        int place = pair.about(f, 0);
         int x = 6 + shape.nextInt(6);
         int y = 6 + shape.nextInt(6);
         int branch = 22 + shape.nextInt(6);

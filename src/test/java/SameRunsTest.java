@@ -10,15 +10,14 @@ public final class SameRunsTest {
         Checks checks = new Checks("SameRunsTest");
         for (int seed = 0; seed < 1500; seed++) {
             Pair pair = new Pair(checks, "seed " + seed);
-            Random random = new Random(seed);
-            ProgramMaker maker = new ProgramMaker(random, pair);
+            ProgramMaker maker = new ProgramMaker(new Random(seed), pair);
             if (seed % 3 == 0) {
                 maker.small();
             } else {
                 maker.orderly();
             }
-            if (pair.x.run(0, 6000) == 0) {
-                compare(checks, pair.x, "seed " + seed);
+            if (pair.run(0, 6000) == 0) {
+                compare(checks, pair, "seed " + seed);
             }
         }
         checks.holds("many ended", ended > 500);
@@ -27,28 +26,28 @@ public final class SameRunsTest {
         checks.end();
     }
 
-    private static void compare(Checks checks, LinkPress x, String name) {
+    private static void compare(Checks checks, Pair pair, String name) {
         for (int i = 0; i < 4; i++) {
-            int words = x.press((i & 1) == 1, (i & 2) == 2);
+            int words = pair.press((i & 1) == 1, (i & 2) == 2);
             if (words < 0) {
                 return;
             }
             ended += i == 0 ? 1 : 0;
-            folded += i == 1 && x.count(4) < x.count(0) ? 1 : 0;
-            withRoutines += i == 2 && x.count(5) > 0 ? 1 : 0;
-            checks.due(name + ", run(1, 20000)", x.run(1, 20000), 0);
-            checks.due(name + ", ran(1, 2)", x.ran(1, 2), x.ran(0, 2));
-            for (int k = 0; k < 200; k++) {
-                checks.due(name + ", printed(1, " + k + ")", x.printed(1, k), x.printed(0, k));
+            folded += i == 1 && pair.count(4) < pair.count(0) ? 1 : 0;
+            withRoutines += i == 2 && pair.count(5) > 0 ? 1 : 0;
+            checks.due(name + ", run(1, 20000)", pair.run(1, 20000), 0);
+            checks.due(name + ", ran(1, 2)", pair.ran(1, 2), pair.ran(0, 2));
+            for (int k = 0; k < 200 && k <= pair.ran(0, 2); k++) {
+                checks.due(name + ", printed(1, " + k + ")", pair.printed(1, k), pair.printed(0, k));
             }
             // as told 0 may stand for an address or a return
             for (int k = 0; k < 32; k++) {
-                int told = x.register(0, k);
-                checks.due(name + ", register(1, " + k + ")", told == 0 ? 0 : x.register(1, k), told);
+                int told = pair.register(0, k);
+                checks.due(name + ", register(1, " + k + ")", told == 0 ? 0 : pair.register(1, k), told);
             }
             for (int k = 0; k < 64; k++) {
-                int told = x.memory(0, k);
-                checks.due(name + ", memory(1, " + k + ")", told == 0 ? 0 : x.memory(1, k), told);
+                int told = pair.memory(0, k);
+                checks.due(name + ", memory(1, " + k + ")", told == 0 ? 0 : pair.memory(1, k), told);
             }
         }
     }

@@ -1,5 +1,7 @@
-/** The words of the instructions, against those that GNU as gives for RV32I. */
-public final class WordsTest {
+import java.util.Arrays;
+
+/** The words of V, against those that GNU as gives for RV32I (ADDR: reckoned by hand). */
+final class WordsPart extends Part {
     /** Number, a, b, c, word. */
     private static final int[][] PLAIN = {
         {0, 31, 30, 29, 31395763},
@@ -91,91 +93,100 @@ public final class WordsTest {
         {29, 0, 0, 0, -165678865}, {29, 1, 0, 0, -2101009}, {30, 1, 0, 0, -6295441},
         {30, 0, 0, 0, -178261905}};
 
-    private static final Checks CHECKS = new Checks("WordsTest");
+    WordsPart(Checks checks) {
+        super(checks);
+    }
 
-    public static void main(String[] args) {
+    void check() {
         plainWords();
         goingWords();
+        farJumps();
         addressWords();
-        CHECKS.end();
     }
 
-    private static void plainWords() {
+    private void plainWords() {
+        sentence("RV32I's own words for 0 to 27;");
         for (int[] row : PLAIN) {
-            LinkPress x = new LinkPress();
-            x.function();
-            x.put(0, row[0], row[1], row[2], row[3]);
-            x.put(0, 31, 0, 0, 0);
-            CHECKS.due("press", x.press(false, true), 2);
-            CHECKS.due("word of " + row[0] + ", " + row[1] + ", " + row[2] + ", " + row[3],
-                x.word(0), row[4]);
-            CHECKS.due("word behind", x.word(1), 32871);
+            LinkPress x = program(f(row, i(RET)));
+            due("press", x.press(false, true), 2);
+            due("word of " + row[0] + ", " + row[1] + ", " + row[2] + ", " + row[3], x.word(0), row[4]);
+            due("word behind", x.word(1), 0x8067);
+        }
+        branchesAndJumps(BEQ, BGEU);
+    }
+
+    private void goingWords() {
+        sentence("JUMP: jal x0; CALL: jal x1; TAIL: jal x0; RET: jalr x0, 0(x1); ICALL: jalr x1, 0(a); PRINT: ecall;");
+        branchesAndJumps(JUMP, PRINT);
+        for (int a : new int[] {0, 1, 2, 31}) {
+            LinkPress x = program(f(i(ICALL, a), i(RET)));
+            due("press", x.press(true, true), 2);
+            due("jalr x1, 0(x" + a + ")", x.word(0), a << 15 | 1 << 7 | 0x67);
         }
     }
 
-    private static int putAll(LinkPress x, int f, int[][] rows) {
-        int place = LinkPress.NONE;
-        for (int[] row : rows) {
-            place = x.put(f, row[0], row[1], row[2], row[3]);
+    /** Over 511, 512 and 513 words, there and back: beyond 511 another bit of the word is needed. */
+    private void farJumps() {
+        int[][] far = {{511, 0x7FC000EF, 0x805FF06F}, {512, 0x001000EF, 0x801FF06F}, {513, 0x005000EF, 0xFFCFF06F}};
+        for (int[] way : far) {
+            int[][][] rows = behind(way[0]);
+            rows[0] = join(f(i(CALL, 14)), times(18, i(ADDR, 7, 0)), f(i(PRINT), i(RET)));
+            rows[14] = f(i(TAIL, 0));
+            LinkPress x = program(rows);
+            due("press", x.press(false, true), way[0] + 1);
+            due("jal x1 over " + way[0] + " words", x.word(0), way[1]);
+            due("jal x0 back over " + way[0] + " words", x.word(way[0]), way[2]);
+            due("run(1, 1)", x.run(1, 1), FUEL);
+            due("there", x.ran(1, 3), 4096 + 4 * way[0]);
+            due("run(1, 2)", x.run(1, 2), FUEL);
+            due("and back", x.ran(1, 3), 4096);
         }
-        return place;
     }
 
-    private static void dueAll(LinkPress x, int first, int[][] rows) {
-        for (int i = 0; i < rows.length; i++) {
-            CHECKS.due("word(" + (first + i) + ")", x.word(first + i), rows[i][4]);
-        }
+    /** FUNCTION 14 lies so many words behind 4096: 13 of 39 words are ahead, and a rest. */
+    private static int[][][] behind(int words) {
+        int[][][] rows = new int[15][][];
+        Arrays.fill(rows, join(times(19, i(ADDR, 7, 0)), f(i(RET))));
+        rows[13] = join(times(words - 13 * 39 - 1, i(PRINT)), f(i(RET)));
+        rows[14] = f(i(RET));
+        return rows;
     }
 
-    private static void goingWords() {
-        LinkPress x = new LinkPress();
-        x.function();
-        x.function();
-        putAll(x, 1, SECOND);
-        putAll(x, 0, GOING);
-        for (int i = 0; i < 21; i++) {
-            x.put(0, 34, 0, 0, 0);
+    /** Of one program with all that goes anywhere, the words of these numbers. */
+    private void branchesAndJumps(int least, int most) {
+        LinkPress x = program(join(GOING, times(21, i(PRINT)), COMING_BACK), SECOND);
+        due("press", x.press(true, false), 44);
+        int[][] all = join(GOING, new int[21][5], COMING_BACK, SECOND);
+        for (int k = 0; k < all.length; k++) {
+            if (all[k][4] != 0 && all[k][0] >= least && all[k][0] <= most) {
+                due("word(" + k + ")", x.word(k), all[k][4]);
+            }
         }
-        CHECKS.due("last place", putAll(x, 0, COMING_BACK), 39);
-        CHECKS.due("press", x.press(true, false), 44);
-        dueAll(x, 0, GOING);
-        dueAll(x, 33, COMING_BACK);
-        dueAll(x, 40, SECOND);
     }
 
     /** The lowest 12 bits just below 2048, at it and above; and a register that is not written. */
-    private static void addressWords() {
+    private void addressWords() {
+        sentence("ADDR: lui a, then addi a, a by the lowest 12 bits "
+            + "(with sign; the upper ones are 1 more where these are below 0).");
         addressBehind(511, 1, 2044);
         addressBehind(512, 2, -2048);
         addressBehind(513, 2, -2044);
     }
 
-    /** The last function lies so many words behind 4096: 13 of 39 words are ahead, and a rest. */
-    private static void addressBehind(int words, int upper, int low) {
-        LinkPress x = new LinkPress();
-        for (int f = 0; f < 13; f++) {
-            x.function();
-            for (int i = 0; i < 19; i++) {
-                x.put(f, 32, f == 1 ? 0 : 7, f == 0 || f == 1 ? 14 : 0, 0);
-            }
-            x.put(f, 31, 0, 0, 0);
-        }
-        x.function();
-        for (int i = 13 * 39 + 1; i < words; i++) {
-            x.put(13, 34, 0, 0, 0);
-        }
-        x.put(13, 31, 0, 0, 0);
-        x.function();
-        x.put(14, 31, 0, 0, 0);
-        CHECKS.due("press", x.press(false, false), words + 1);
-        CHECKS.due("body(14, 1)", x.body(14, 1), 4096 + 4 * words);
-        CHECKS.due("lui x7", x.word(0), upper << 12 | 7 << 7 | 0x37);
-        CHECKS.due("addi x7", x.word(1), low << 20 | 7 << 15 | 7 << 7 | 0x13);
-        CHECKS.due("lui x0", x.word(39), upper << 12 | 0x37);
-        CHECKS.due("addi x0", x.word(40), low << 20 | 0x13);
-        CHECKS.due("lui x7 of 4096", x.word(78), 1 << 12 | 7 << 7 | 0x37);
-        CHECKS.due("addi x7 of 4096", x.word(79), 7 << 15 | 7 << 7 | 0x13);
-        CHECKS.due("run(1, 2)", x.run(1, 2), 1);
-        CHECKS.due("register(1, 7)", x.register(1, 7), 4096 + 4 * words);
+    private void addressBehind(int words, int upper, int low) {
+        int[][][] rows = behind(words);
+        rows[0] = join(times(19, i(ADDR, 7, 14)), f(i(RET)));
+        rows[1] = join(times(19, i(ADDR, 0, 14)), f(i(RET)));
+        LinkPress x = program(rows);
+        due("press", x.press(false, false), words + 1);
+        due("body(14, 1)", x.body(14, 1), 4096 + 4 * words);
+        due("lui x7", x.word(0), upper << 12 | 7 << 7 | 0x37);
+        due("addi x7", x.word(1), low << 20 | 7 << 15 | 7 << 7 | 0x13);
+        due("lui x0", x.word(39), upper << 12 | 0x37);
+        due("addi x0", x.word(40), low << 20 | 0x13);
+        due("lui x7 of 4096", x.word(78), 1 << 12 | 7 << 7 | 0x37);
+        due("addi x7 of 4096", x.word(79), 7 << 15 | 7 << 7 | 0x13);
+        due("run(1, 2)", x.run(1, 2), 1);
+        due("register(1, 7)", x.register(1, 7), 4096 + 4 * words);
     }
 }
