@@ -13,14 +13,8 @@ public final class CompareTest {
             ProgramMaker maker = new ProgramMaker(random, pair);
             make(maker, random.nextInt(5));
             use(pair, random);
-            pair.clear();
-            pair.compareImage();
-            // nothing of it is left for the next one; a third comes behind that
-            maker.small();
-            use(pair, random);
-            if (seed % 3 == 0) {
-                maker.small();
-                use(pair, random);
+            if (pair.changes() < Pair.MOST_CALLS - 120) {
+                useAnew(pair, maker, random, seed % 3 == 0);
             }
         }
         checks.end();
@@ -32,6 +26,18 @@ public final class CompareTest {
             case 1: maker.small(); break;
             case 2: maker.repetitive(); break;
             default: maker.orderly();
+        }
+    }
+
+    /** When it is cleared nothing of it is left for the next one; a third may come behind that. */
+    private static void useAnew(Pair pair, ProgramMaker maker, Random random, boolean withThird) {
+        pair.clear();
+        pair.compareImage();
+        maker.small();
+        use(pair, random);
+        if (withThird) {
+            maker.small();
+            use(pair, random);
         }
     }
 

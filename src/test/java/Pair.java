@@ -34,6 +34,10 @@ final class Pair {
         return call.applyAsInt(x);
     }
 
+    int changes() {
+        return changes.size();
+    }
+
     /** One call less than an object may get is for changes, so that there is one to ask. */
     private int change(ToIntFunction<LinkPress> call) {
         if (changes.size() == MOST_CALLS - 1) {

@@ -2,6 +2,8 @@ import java.util.Random;
 
 /** Makes programs by a seed: wild ones, and ones that call, come back, repeat and are alike. */
 final class ProgramMaker {
+    private static final int MOST_CHANGES = Pair.MOST_CALLS - 32;
+
     private final Random random;
     private final Pair pair;
 
@@ -12,6 +14,13 @@ final class ProgramMaker {
 
     private int below(int n) {
         return random.nextInt(n);
+    }
+
+    /** Those that would leave the object too few calls are left out. */
+    private void put(int f, int number, int a, int b, int c) {
+        if (pair.changes() < MOST_CHANGES) {
+            pair.put(f, number, a, b, c);
+        }
     }
 
     private int wildValue() {
@@ -33,7 +42,7 @@ final class ProgramMaker {
         }
         int puts = below(60);
         for (int i = 0; i < puts; i++) {
-            pair.put(below(functions + 1) - below(2), below(37) - 1, wildValue(), wildValue(), wildValue());
+            put(below(functions + 1) - below(2), below(37) - 1, wildValue(), wildValue(), wildValue());
         }
     }
 
@@ -49,7 +58,7 @@ final class ProgramMaker {
                 smallSign(f, functions, length + 1);
             }
             if (below(12) != 0) {
-                pair.put(f, new int[] {31, 31, 28, 30}[below(4)], below(Math.max(functions, length)), 0, 0);
+                put(f, new int[] {31, 31, 28, 30}[below(4)], below(Math.max(functions, length)), 0, 0);
             }
         }
     }
@@ -61,18 +70,18 @@ final class ProgramMaker {
     private void smallSign(int f, int functions, int length) {
         int free = wildValue();
         switch (below(12)) {
-            case 0: pair.put(f, below(10), register(), register(), register()); break;
-            case 1: pair.put(f, 10 + below(6), register(), register(), below(3) - 1); break;
-            case 2: pair.put(f, 10, register(), register(), 0); break;
-            case 3: pair.put(f, 16 + below(3), register(), register(), below(32)); break;
-            case 4: pair.put(f, 19, register(), 16, free); break;
-            case 5: pair.put(f, 20 + below(2), register(), register(), 4 * below(3) - below(2)); break;
-            case 6: pair.put(f, 22 + below(6), register(), register(), below(length + 1)); break;
-            case 7: pair.put(f, 32, register(), below(functions + 1), free); break;
-            case 8: pair.put(f, 33, register(), free, free); break;
-            case 9: pair.put(f, 29, below(functions + 1), free, free); break;
-            case 10: pair.put(f, 34, free, free, free); break;
-            default: pair.put(f, 28, below(length), free, free);
+            case 0: put(f, below(10), register(), register(), register()); break;
+            case 1: put(f, 10 + below(6), register(), register(), below(3) - 1); break;
+            case 2: put(f, 10, register(), register(), 0); break;
+            case 3: put(f, 16 + below(3), register(), register(), below(32)); break;
+            case 4: put(f, 19, register(), 16, free); break;
+            case 5: put(f, 20 + below(2), register(), register(), 4 * below(3) - below(2)); break;
+            case 6: put(f, 22 + below(6), register(), register(), below(length + 1)); break;
+            case 7: put(f, 32, register(), below(functions + 1), free); break;
+            case 8: put(f, 33, register(), free, free); break;
+            case 9: put(f, 29, below(functions + 1), free, free); break;
+            case 10: put(f, 34, free, free, free); break;
+            default: put(f, 28, below(length), free, free);
         }
     }
 
@@ -118,24 +127,24 @@ final class ProgramMaker {
     private void orderlyFunction(int f, int functions, int[][][] phrase, Random shape) {
         boolean leaf = f == functions - 1;
         if (f == 0) {
-            pair.put(f, 19, 3, 16, 0);
-            pair.put(f, 10, 2, 3, -4);
+            put(f, 19, 3, 16, 0);
+            put(f, 10, 2, 3, -4);
         }
-        pair.put(f, 10, 2, 2, 4);
-        pair.put(f, 21, 1, 2, 0);
+        put(f, 10, 2, 2, 4);
+        put(f, 21, 1, 2, 0);
         int parts = 1 + shape.nextInt(5);
         for (int i = 0; i < parts; i++) {
             for (int[] s : phrase[shape.nextInt(phrase.length)]) {
-                pair.put(f, s[0], s[1], s[2], s[3]);
+                put(f, s[0], s[1], s[2], s[3]);
             }
             orderlyPart(f, functions, shape);
         }
-        pair.put(f, 20, 1, 2, 0);
-        pair.put(f, 10, 2, 2, -4);
+        put(f, 20, 1, 2, 0);
+        put(f, 10, 2, 2, -4);
         if (shape.nextInt(4) == 0 && !leaf) {
-            pair.put(f, 30, f + 1 + below(functions - f - 1), 0, 0);
+            put(f, 30, f + 1 + below(functions - f - 1), 0, 0);
         } else {
-            pair.put(f, 31, 0, 0, 0);
+            put(f, 31, 0, 0, 0);
         }
     }
 
@@ -148,22 +157,22 @@ final class ProgramMaker {
             case 0:
             case 1:
                 if (f < functions - 1) {
-                    pair.put(f, 29, f + 1 + below(functions - f - 1), 0, 0);
+                    put(f, 29, f + 1 + below(functions - f - 1), 0, 0);
                 }
                 break;
             case 2:
                 if (f < functions - 1 && branch < 25) {
-                    pair.put(f, 32, 12, functions - 1, 0);
-                    pair.put(f, 33, 12, 0, 0);
+                    put(f, 32, 12, functions - 1, 0);
+                    put(f, 33, 12, 0, 0);
                 }
                 break;
             case 3:
-                pair.put(f, branch, x, y, Math.min(place + 2, 39));
-                pair.put(f, 10, 6, 6, 1);
+                put(f, branch, x, y, Math.min(place + 2, 39));
+                put(f, 10, 6, 6, 1);
                 break;
             case 4:
                 if (place > 4) {
-                    pair.put(f, branch, x, y, 4 + shape.nextInt(place - 4));
+                    put(f, branch, x, y, 4 + shape.nextInt(place - 4));
                 }
                 break;
             default:
@@ -187,12 +196,12 @@ final class ProgramMaker {
             for (int i = 0; i < length; i++) {
                 int[] s = sign[below(signs)];
                 if (below(12) < jumps) {
-                    pair.put(f, 22 + below(6), 6, 7, below(length + 1));
+                    put(f, 22 + below(6), 6, 7, below(length + 1));
                 } else {
-                    pair.put(f, s[0], s[1], s[2], s[3]);
+                    put(f, s[0], s[1], s[2], s[3]);
                 }
             }
-            pair.put(f, 31, 0, 0, 0);
+            put(f, 31, 0, 0, 0);
         }
     }
 }
