@@ -25,6 +25,7 @@ final class RoutinesPart extends Part {
         theMost();
         theLongest();
         theFirst();
+        fullProgram();
         moreThanZero();
         manyRoutines();
     }
@@ -398,6 +399,20 @@ final class RoutinesPart extends Part {
         LinkPress z = letters("abcdefghijklmnopqrstu.", "abcdefghijklmnopqrstu.");
         occurs(z, 0, 0, 0, 1, 0);
         due("the last is left", z.word(1), 'u' << 20 | 7 << 15 | 6 << 7 | 0x13);
+    }
+
+    /** 300 INSTRUCTIONS: 19 of 15 save as much as 13 of 22, and leave one in each of seven BODIES. */
+    private void fullProgram() {
+        String[] rows = new String[8];
+        Arrays.fill(rows, "a".repeat(39) + ".");
+        rows[7] = "a".repeat(19) + ".";
+        LinkPress x = letters(rows);
+        due("count(1)", x.count(1), 300);
+        due("count(3)", x.count(3), 7 * 4 + 2 + 20);
+        due("count(5)", x.count(5), 1);
+        routineIs(x, 0, 19, 15, 1000);
+        occurs(x, 0, 0, 0, 0, 19, 1, 0, 1, 19, 2, 0, 2, 19, 3, 0, 3, 19, 4, 0, 4, 19, 5, 0, 5, 19, 6, 0, 6, 19, 7, 0);
+        due("the word of the last", x.occurrence(0, 14, 2), 4096 + 4 * 28);
     }
 
     private void moreThanZero() {
