@@ -1,5 +1,4 @@
 import java.io.IOException;
-import java.lang.reflect.Constructor;
 import java.lang.reflect.Field;
 import java.lang.reflect.Method;
 import java.lang.reflect.Modifier;
@@ -14,56 +13,37 @@ import java.util.TreeSet;
 import java.util.regex.Matcher;
 import java.util.regex.Pattern;
 
-/** What of LANGUAGE.md can be seen without a reader: the face, words, sizes, and the room. */
+/** What of LANGUAGE.md can be seen without a reader: classes, words, sizes, and the room. */
 public final class LanguageTest {
     private static final Checks CHECKS = new Checks("LanguageTest");
-    private static final List<String> FACE = List.of(
-        "about(int,int)", "body(int,int)", "clear()", "count(int)", "function()", "memory(int,int)",
-        "occurrence(int,int,int)", "press(boolean,boolean)", "printed(int,int)",
-        "put(int,int,int,int,int)", "ran(int,int)", "register(int,int)", "routine(int,int)",
-        "run(int,int)", "word(int)");
 
     public static void main(String[] args) throws IOException, IllegalAccessException {
         String source = Files.readString(Path.of("src/main/java/LinkPress.java"));
-        face();
+        classes();
         words(source);
         sizes(source);
         room();
         CHECKS.end();
     }
 
-    private static void face() {
-        int hidden = Modifier.PRIVATE;
-        Set<String> methods = new TreeSet<>();
-        Set<String> names = new TreeSet<>();
+    private static void classes() {
+        Set<String> face = new TreeSet<>();
+        for (Method m : LinkPress.class.getMethods()) {
+            face.add(m.getName());
+        }
         for (Method m : LinkPress.class.getDeclaredMethods()) {
-            if ((m.getModifiers() & hidden) == 0) {
-                StringBuilder b = new StringBuilder(m.getName()).append('(');
-                for (Class<?> c : m.getParameterTypes()) {
-                    b.append(b.charAt(b.length() - 1) == '(' ? "" : ",").append(c.getName());
-                }
-                methods.add(b.append(')').toString());
-                names.add(m.getName());
-                CHECKS.holds(m + " answers an int", m.getReturnType() == int.class);
-                CHECKS.holds(m + " is public", Modifier.isPublic(m.getModifiers()));
-            }
-        }
-        CHECKS.holds("the face: " + methods, methods.equals(new TreeSet<>(FACE)));
-        for (Constructor<?> c : LinkPress.class.getDeclaredConstructors()) {
-            CHECKS.holds("the constructor", Modifier.isPublic(c.getModifiers()) && c.getParameterCount() == 0);
-        }
-        for (Field f : LinkPress.class.getDeclaredFields()) {
-            CHECKS.holds(f.getName(), Modifier.isPrivate(f.getModifiers()) || f.getName().equals("NONE"));
+            CHECKS.holds(m + " bears no name of the face",
+                Modifier.isPublic(m.getModifiers()) || !face.contains(m.getName()));
         }
         for (Class<?> inner : LinkPress.class.getDeclaredClasses()) {
             CHECKS.holds(inner + " is static", Modifier.isStatic(inner.getModifiers()));
+            CHECKS.holds(inner + " is not public", !Modifier.isPublic(inner.getModifiers()));
             CHECKS.holds(inner + " has few fields", instanceFields(inner) <= 20);
             for (Method m : inner.getDeclaredMethods()) {
-                CHECKS.holds(m + " bears no name of the face", !names.contains(m.getName()));
+                CHECKS.holds(m + " bears no name of the face", !face.contains(m.getName()));
             }
         }
         CHECKS.holds("few classes", LinkPress.class.getDeclaredClasses().length <= 12);
-        CHECKS.holds("final", Modifier.isFinal(LinkPress.class.getModifiers()));
     }
 
     private static int instanceFields(Class<?> c) {
